@@ -1,0 +1,38 @@
+/** Counts and prints the answers that are not the ones that are due. */
+final class Due {
+    static final int NOTHING = -11;
+    static final int KIND = -12;
+    static final int NARROW = -13;
+    static final int SIZE = -14;
+    static final int PLACE = -15;
+    static final int STALLED = -16;
+    static final int DEFECT = -17;
+    static final int OUTSIDE = -1;
+
+    static final int ENGINE = 1;
+    static final int WAGON = 2;
+    static final int TANK = 3;
+
+    private final String name;
+    private int asked;
+    private int wrong;
+
+    Due(String name) {
+        this.name = name;
+    }
+
+    void is(String what, int due, int got) {
+        asked++;
+        if (got != due) {
+            wrong++;
+            System.out.println(name + ": " + what + " answered " + got + ", due is " + due);
+        }
+    }
+
+    void end() {
+        System.out.println(name + ": " + asked + " answers, " + wrong + " not as due");
+        if (wrong != 0 || asked == 0) {
+            System.exit(1);
+        }
+    }
+}
