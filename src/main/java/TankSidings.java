@@ -159,11 +159,11 @@ public final class TankSidings {
         if (!isEngine(engine)) {
             return tell(KIND);
         }
-        Vehicle broken = firstGrave(engine.behind);
+        Vehicle broken = tracks[track].firstGraveBehindFront();
         if (broken != null) {
             return tellLevel(DEFECT, broken.defectLevel);
         }
-        int drawn = weightOfAll(engine.behind);
+        int drawn = tracks[track].weightBehindFront();
         int tooHeavy = drawn - PULL_PER_WEIGHT * engine.weight;
         return tooHeavy > 0 ? tellLevel(STALLED, tooHeavy) : drawn;
     }
@@ -372,23 +372,6 @@ public final class TankSidings {
         return j >= 0 && j < yardPlan.width ? 0 : PLACE;
     }
 
-    private static Vehicle firstGrave(Vehicle first) {
-        for (Vehicle v = first; v != null; v = v.behind) {
-            if (v.defectLevel >= GRAVE_LEVEL) {
-                return v;
-            }
-        }
-        return null;
-    }
-
-    private static int weightOfAll(Vehicle first) {
-        int sum = 0;
-        for (Vehicle v = first; v != null; v = v.behind) {
-            sum += v.fullWeight();
-        }
-        return sum;
-    }
-
     private static final class Vehicle {
         final int sort;
         final int weight;
@@ -428,6 +411,28 @@ public final class TankSidings {
                 found = found.behind;
             }
             return found;
+        }
+
+        /** Answers null where no vehicle behind the front has a defect that stops the drawing. */
+        Vehicle firstGraveBehindFront() {
+            Vehicle v = vehicleAt(1);
+            for (int k = 1; k < size && v != null; k++) {
+                if (v.defectLevel >= GRAVE_LEVEL) {
+                    return v;
+                }
+                v = v.behind;
+            }
+            return null;
+        }
+
+        int weightBehindFront() {
+            int sum = 0;
+            Vehicle v = vehicleAt(1);
+            for (int k = 1; k < size && v != null; k++) {
+                sum += v.fullWeight();
+                v = v.behind;
+            }
+            return sum;
         }
 
         void putAhead(Vehicle vehicle) {

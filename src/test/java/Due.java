@@ -13,6 +13,9 @@ final class Due {
     static final int WAGON = 2;
     static final int TANK = 3;
 
+    /** A fault in a run of many thousand calls would bury the first row, the one that tells most. */
+    private static final int MOST_PRINTED = 50;
+
     private final String name;
     private int asked;
     private int wrong;
@@ -25,7 +28,9 @@ final class Due {
         asked++;
         if (got != due) {
             wrong++;
-            System.out.println(name + ": " + what + " answered " + got + ", due is " + due);
+            if (wrong <= MOST_PRINTED) {
+                System.out.println(name + ": " + what + " answered " + got + ", due is " + due);
+            }
         }
     }
 

@@ -169,6 +169,8 @@ public final class TrackPromisesTest {
         DUE.is("couple", 5, x.couple(0, 2));
         stands(x, 0, "1 2 3 8 9");
         stands(x, 2, "");
+        DUE.is("none is left to take", Due.NOTHING, x.take(2));
+        DUE.is("none is left to draw", Due.NOTHING, x.draw(2));
         DUE.is("couple with an empty one", 5, x.couple(0, 2));
         stands(x, 0, "1 2 3 8 9");
         DUE.is("the emptied track is used again", 1, x.place(2, Due.TANK, 7));
