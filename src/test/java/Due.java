@@ -17,6 +17,7 @@ final class Due {
     private static final int MOST_PRINTED = 50;
 
     private final String name;
+    private String sentence = "";
     private int asked;
     private int wrong;
 
@@ -24,12 +25,25 @@ final class Due {
         this.name = name;
     }
 
+    /** The document's words that the answers from here on are due to. */
+    void by(String words) {
+        sentence = " [" + words + "]";
+    }
+
     void is(String what, int due, int got) {
+        count(due == got, what + " answered " + got + ", due is " + due);
+    }
+
+    void same(String what, String due, String got) {
+        count(due.equals(got), what + "\n  is  " + got + "\n  due " + due);
+    }
+
+    private void count(boolean asDue, String told) {
         asked++;
-        if (got != due) {
+        if (!asDue) {
             wrong++;
             if (wrong <= MOST_PRINTED) {
-                System.out.println(name + ": " + what + " answered " + got + ", due is " + due);
+                System.out.println(name + sentence + ": " + told);
             }
         }
     }
